@@ -10,7 +10,9 @@ public final class LookTest {
         wishes();
         wishesToldLater();
         lateWishes();
+        twentyWishes();
         counts();
+        slopOfFirstDoor();
         borders();
         Check.end();
     }
@@ -57,6 +59,10 @@ public final class LookTest {
         Check.due("15: none OUT", x.batch(1, 4), 0);
         Check.due("15: from no DOOR", x.batch(0, 5), NONE);
         Check.due("15: from DOOR 0", x.batch(1, 5), 0);
+        x.push(0, 1, 2, 1);
+        Check.due("15: one MEASURE is the least", x.batch(2, 2), 0);
+        Check.due("15: and the greatest", x.batch(2, 3), 0);
+        x.undo();
         x.push(0, 1, 2, 10);
         Check.due("15: none lies there", x.batch(0, 1), 0);
         Check.due("15: no least", x.batch(0, 2), NONE);
@@ -165,6 +171,27 @@ public final class LookTest {
         Check.due("18: it stays LATE", x.wished(0, 1), 6);
         Check.due("18: the other goes on", x.wished(1, 1), 116);
         Check.due("19: of all then", x.count(7), 122);
+    }
+
+    private static void twentyWishes() {
+        OilLine x = Lines.two(6);
+        for (int w = 0; w < 20; w++) {
+            x.wish(1, 0, 1 + w, 0);
+        }
+        Check.due("18: a PUSH for twenty", x.push(0, 1, 1, 6), 1);
+        Check.due("18: KEPT", x.wished(5, 0), 1);
+        Check.due("18: not yet", x.wished(6, 0), NONE);
+        Check.due("18: the last", x.wished(19, 2), 14);
+        Check.due("19: each LATE by 1", x.count(7), 20);
+    }
+
+    private static void slopOfFirstDoor() {
+        OilLine x = new OilLine();
+        x.door(20);
+        x.door(0);
+        x.tank(1, 1, 0, 9, 9);
+        x.push(1, 0, 1, 2);
+        Check.due("19: SLOP of DOOR 0", x.count(4), 2);
     }
 
     private static void counts() {

@@ -122,6 +122,10 @@ public final class PushTest {
         Lines.looks("10: three", y, "11(10)(10)00");
         y.push(0, 1, 2, 1);
         Lines.looks("10: HIND again after two", y, "21(10)(10)(10)0");
+        OilLine v = Lines.two(5);
+        v.follow(1, 0, 1, 1);
+        v.push(0, 1, 1, 3);
+        Lines.looks("10: the far side of FORE in front of b's place", v, "11(10)(10)0");
         OilLine z = Lines.two(4);
         z.follow(1, 0, 1, 1);
         z.push(0, 1, 1, 3);
@@ -251,6 +255,9 @@ public final class PushTest {
         Check.due("10: 1 of 4 is 25 hundredths", x.tankOf(1, 1, 1), 1);
         Check.due("10: amount", x.tankOf(1, 1, 0), 4);
         Check.due("10: came", x.tankOf(1, 1, 4), 1);
+        x.undo();
+        Check.due("12: none FOREIGN again", x.tankOf(1, 1, 1), 0);
+        x.push(0, 1, 1, 1);
         x.push(0, 1, 1, 1);
         Check.due("10: 2 of 5 are too many", x.tankOf(1, 1, 1), 1);
         Check.due("10: SLOP", x.about(1, 2), slop + 1);
@@ -518,6 +525,7 @@ public final class PushTest {
     private static void whatEndsUndo() {
         for (int call = 0; call < 9; call++) {
             OilLine x = Lines.two(6);
+            x.door(5);
             x.push(0, 1, 1, 1);
             tell(x, call, false);
             Check.due("12: refused, call " + call, x.count(8), 1);
@@ -538,16 +546,7 @@ public final class PushTest {
     private static void tell(OilLine x, int call, boolean well) {
         switch (call) {
             case 0 -> x.door(well ? 3 : 6);
-            case 1 -> {
-                if (well) {
-                    x.door(4);
-                    x.push(0, 1, 1, 1);
-                    x.undo();
-                    x.tank(2, 0, 0, 1, 0);
-                } else {
-                    x.tank(0, 0, 0, 1, 0);
-                }
-            }
+            case 1 -> x.tank(well ? 2 : 0, 0, 0, 1, 0);
             case 2 -> x.follow(0, 0, well ? 1 : 0, 0);
             case 3 -> x.grace(0, well ? 0 : 101);
             case 4 -> x.rate(0, well ? 10 : 0);

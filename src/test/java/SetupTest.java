@@ -8,6 +8,8 @@ public final class SetupTest {
         newLine();
         lineLeavesTables();
         lineTakesBatchesAndCost();
+        lineTakesForeign();
+        lineTakesWhatLayBeyond();
         doors();
         tanks();
         amountsOfTanks();
@@ -81,6 +83,7 @@ public final class SetupTest {
         Check.due("2: RATE anew", x.about(0, 1), 10);
         Check.due("2: no TANK", x.tankOf(0, 1, 0), NONE);
         Check.due("2: tank anew", x.tank(0, 1, 0, 9, 9), 0);
+        Check.due("2: tank of 0 anew", x.tank(0, 0, 0, 9, 9), 0);
         Check.due("2: tank of 2 anew", x.tank(0, 2, 0, 9, 9), 0);
         Check.due("2: what came OUT anew", x.tank(1, 0, 0, 9, 0), 0);
         Check.due("2: came 0", x.tankOf(1, 0, 4), 0);
@@ -113,6 +116,31 @@ public final class SetupTest {
         x.door(6);
         Check.due("2: SLOP of a new DOOR", x.about(1, 2), 0);
         Check.due("2: SLOP of all", x.count(4), 0);
+    }
+
+    private static void lineTakesForeign() {
+        OilLine x = Lines.two(6);
+        x.follow(1, 0, 1, 1);
+        x.grace(1, 100);
+        x.push(0, 1, 1, 3);
+        x.push(0, 1, 1, 6);
+        Check.holds("2: FOREIGN ahead", x.tankOf(1, 1, 1) > 0);
+        x.line(6);
+        x.door(0);
+        x.door(6);
+        x.tank(1, 1, 0, 9, 9);
+        Check.due("2: none FOREIGN in a new TANK", x.tankOf(1, 1, 1), 0);
+    }
+
+    private static void lineTakesWhatLayBeyond() {
+        OilLine x = Lines.two(8);
+        x.push(0, 1, 3, 8);
+        x.line(4);
+        x.door(0);
+        x.door(4);
+        x.tank(0, 0, 0, 9, 9);
+        x.follow(0, 3, 0, 0);
+        Check.due("2: nothing lies beyond the end", x.push(0, 1, 0, 1), 1);
     }
 
     private static void doors() {
