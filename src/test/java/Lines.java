@@ -24,6 +24,19 @@ final class Lines {
         return x;
     }
 
+    /** DOORS at these places, each with a TANK of 500 out of 0 .. 1000 for every KIND. */
+    static OilLine doors(int measures, int... places) {
+        OilLine x = new OilLine();
+        x.line(measures);
+        for (int door = 0; door < places.length; door++) {
+            x.door(places[door]);
+            for (int kind = 0; kind < 8; kind++) {
+                x.tank(door, kind, 0, 1000, 500);
+            }
+        }
+        return x;
+    }
+
     /** Of each MEASURE its KIND; of a MIXED one HIND and FORE KIND in brackets: 11(10)0. */
     static String picture(OilLine x) {
         StringBuilder text = new StringBuilder();
