@@ -5,25 +5,33 @@ import java.lang.reflect.Modifier;
 import java.nio.file.Files;
 import java.nio.file.Path;
 import java.util.Arrays;
+import java.util.Set;
 import java.util.TreeSet;
 import java.util.regex.Matcher;
 import java.util.regex.Pattern;
 
-/** The public face of the document, and rules 1, 2, 5, 6 and 11 of LANGUAGE.md. */
+/** The public face of the document, and rules 1 to 6 and 11 of LANGUAGE.md, as far as they can be seen from outside. */
 public final class FaceTest {
     private static final String[] METHODS = {"line/1", "door/1", "tank/5", "follow/4", "grace/2", "rate/2", "price/2",
         "wish/4", "push/4", "trial/4", "undo/0", "wait/1", "at/2", "batch/2", "tankOf/3", "about/2", "wished/2",
         "count/1", "borders/0"};
     private static final String[] CONSTANTS = {"NONE", "BAD", "STATE", "FULL"};
     private static final String FORBIDDEN =
-        "\\b(throw|throws|try|catch|synchronized|assert|Exact|package|protected)\\b|->|::|\\bnew \\w+\\(\\) *\\{";
+        "\\b(throw|throws|try|catch|synchronized|assert|Exact|package|protected|var|instanceof|Object|double|float)\\b"
+        + "|->|::|\\bnew \\w+\\(\\) *\\{|\\[\\]\\[\\]";
+    private static final Set<String> LIBRARY =
+        Set.of("System.arraycopy", "Arrays.fill", "Math.max", "Math.min", "Math.floorMod");
+    private static final int LONGEST_METHOD = 60;
 
     public static void main(String[] args) throws IOException {
         theClass();
         constants();
         methods();
+        documentsFace();
         nested();
         source();
+        library();
+        lengths();
         Check.end();
     }
 
@@ -67,6 +75,21 @@ public final class FaceTest {
         Check.holds("the methods are " + seen, seen.equals(due));
     }
 
+    /** The names above are those of the document's own Java. */
+    private static void documentsFace() throws IOException {
+        Path document = Path.of("../shared/DOC.md");
+        if (!Files.exists(document)) {
+            return;
+        }
+        TreeSet<String> told = new TreeSet<>();
+        Matcher found = Pattern.compile("\n    public int (\\w+)\\(([^)]*)\\);").matcher(Files.readString(document));
+        while (found.find()) {
+            int parameters = found.group(2).isEmpty() ? 0 : found.group(2).split(",").length;
+            told.add(found.group(1) + "/" + parameters);
+        }
+        Check.holds("the document's methods are " + told, told.equals(new TreeSet<>(Arrays.asList(METHODS))));
+    }
+
     private static boolean isNameOfFace(String name) {
         for (String method : METHODS) {
             if (method.startsWith(name + "/")) {
@@ -90,9 +113,15 @@ public final class FaceTest {
         }
     }
 
-    private static void source() throws IOException {
+    /** The class without its comments. */
+    private static String code() throws IOException {
         String text = Files.readString(Path.of("src/main/java/OilLine.java"));
-        String code = text.replaceAll("(?s)/\\*.*?\\*/", "").replaceAll("//[^\n]*", "");
+        Check.holds("plain signs alone", text.chars().allMatch(c -> c == '\n' || c >= 32 && c < 127));
+        return text.replaceAll("(?s)/\\*.*?\\*/", "").replaceAll("//[^\n]*", "");
+    }
+
+    private static void source() throws IOException {
+        String code = code();
         Matcher found = Pattern.compile(FORBIDDEN).matcher(code);
         while (found.find()) {
             Check.holds("forbidden: " + found.group(), false);
@@ -101,6 +130,31 @@ public final class FaceTest {
         while (imports.find()) {
             Check.holds("import: " + imports.group(1), imports.group(1).equals("java.util.Arrays"));
         }
-        Check.holds("plain signs alone", text.chars().allMatch(c -> c == '\n' || c >= 32 && c < 127));
+    }
+
+    /** Rule 4: of the library nothing is called but what stands above, which the rule allows. */
+    private static void library() throws IOException {
+        Matcher called = Pattern.compile("\\b[A-Z]\\w*\\.\\w+(?=\\()").matcher(code());
+        while (called.find()) {
+            Check.holds("of the library: " + called.group(), LIBRARY.contains(called.group()));
+        }
+    }
+
+    /** Rule 11: a method begins and ends with its own indent. */
+    private static void lengths() throws IOException {
+        int methods = 0;
+        int began = 0;
+        String indent = "";
+        String[] lines = code().split("\n");
+        for (int i = 0; i < lines.length; i++) {
+            if (lines[i].matches(" +[^=;]*\\) \\{") && !lines[i].matches(" +(if|for|while|switch|\\}).*")) {
+                methods++;
+                began = i;
+                indent = lines[i].substring(0, lines[i].indexOf(lines[i].trim()));
+            } else if (lines[i].equals(indent + "}")) {
+                Check.holds("short: " + lines[began].trim(), i - began + 1 <= LONGEST_METHOD);
+            }
+        }
+        Check.holds("methods were seen: " + methods, methods > METHODS.length);
     }
 }

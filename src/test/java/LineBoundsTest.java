@@ -27,6 +27,7 @@ public final class LineBoundsTest {
         likeKinds();
         boundsOfGrace();
         neighbours();
+        neighboursBeyondMixed();
         firstMeasureIsNoBorders();
         borders();
         batchThatIsNotThere();
@@ -237,6 +238,10 @@ public final class LineBoundsTest {
         Check.due("10: 1 to 3", x.push(2, 3, 5, 1), 4);
         Lines.looks("10: MEASURES 1 and 2 alone", x, "1506");
         Check.due("17: MEASURE 2 is SLOP at place 3", x.about(3, 2), 1);
+        Check.due("10: begin to end again", x.push(0, 1, 4, 1), 5);
+        Lines.looks("10: MEASURE 3 went OUT", x, "4150");
+        Check.due("16: of KIND 6", x.tankOf(1, 6, 4), 1);
+        Check.due("16: none of KIND 0 more", x.tankOf(1, 0, 4), 2);
     }
 
     /** "0 <= LEAST <= MOST <= 10000". */
@@ -415,6 +420,29 @@ public final class LineBoundsTest {
         Check.due("20: no PURE one towards the end", x.borders(), 0);
         x.follow(1, 0, 0, 0);
         Check.due("10: MIXED in front of b's place, without a NEIGHBOUR", x.push(0, 1, 1, 1), 4);
+    }
+
+    /** ".. the first PURE one is its NEIGHBOUR there", whatever a MIXED one between is of. */
+    private static void neighboursBeyondMixed() {
+        OilLine x = Lines.doors(6, 0, 6, 2, 5);
+        x.follow(1, 0, 1, 1);
+        x.push(0, 1, 1, 3);
+        x.follow(1, 0, 1, 0);
+        x.push(2, 1, 0, 1);
+        Lines.looks("14", x, "110(10)(10)0");
+        Check.due("20: 1 and 0; of one KIND over MIXED ones, and MIXED ones themselves, are none", x.borders(), 1);
+        x.undo();
+        x.push(0, 1, 1, 1);
+        Lines.looks("14", x, "111(10)(10)0");
+        x.follow(1, 0, 0, 0);
+        Check.due("10: the last MEASURE is a NEIGHBOUR", x.push(0, 3, 1, 1), -13);
+        OilLine y = Lines.doors(6, 0, 6, 1);
+        y.follow(1, 0, 1, 1);
+        y.push(0, 1, 1, 2);
+        Lines.looks("14", y, "1(10)0000");
+        Check.due("20: MEASURE 0 is a NEIGHBOUR", y.borders(), 1);
+        y.follow(1, 3, 0, 0);
+        Check.due("10: MEASURE 0 is a NEIGHBOUR", y.push(2, 1, 3, 1), -13);
     }
 
     /** A BORDER has a NEIGHBOUR "towards the begin": MEASURE 0 has none. */

@@ -196,6 +196,7 @@ public final class LookTest {
 
     private static void counts() {
         OilLine x = mixed();
+        Check.due("19: two MIXED", x.count(3), 2);
         x.price(1, 9);
         x.door(4);
         x.push(0, 2, 6, 4);

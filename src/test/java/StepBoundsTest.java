@@ -37,6 +37,7 @@ public final class StepBoundsTest {
         lookedAtFromB();
         lookedAtBehindTheStep();
         lookedAtFromMixed();
+        lookedAtFromMixedAmongOthers();
         lookedAtAfterMixing();
         lookedAtNowhereElse();
         firstRefusalOfAStep();
@@ -514,6 +515,10 @@ public final class StepBoundsTest {
         x.tank(1, 1, 0, 99, 99);
         x.tank(0, 2, 0, 99, 99);
         Check.due("10: no TANK, but at b and of another KIND", x.push(0, 1, 1, 1), -11);
+        x.line(20);
+        x.door(0);
+        x.door(20);
+        Check.due("10: no TANK on a new LINE", x.push(0, 1, 2, 1), -11);
         int[][] leastAmount = {{0, 0}, {0, 1}, {0, 59}, {0, 60}, {7, 7}, {7, 8}, {9940, 10000}, {9941, 10000},
             {10000, 10000}};
         for (int[] row : leastAmount) {
@@ -680,6 +685,21 @@ public final class StepBoundsTest {
         Check.due("10: 1 and 3 over MIXED ones", z.push(2, 1, 3, 1), -13);
         z.follow(1, 3, 1, 0);
         Check.due("10: they may", z.push(2, 1, 3, 1), 2);
+    }
+
+    /** "its two NEIGHBOURS": of what it is mixed itself is not looked at. */
+    private static void lookedAtFromMixedAmongOthers() {
+        OilLine x = Lines.doors(8, 0, 8, 2, 4);
+        x.follow(1, 0, 1, 1);
+        x.push(0, 1, 1, 3);
+        Lines.looks("10", x, "11(10)(10)0000");
+        x.follow(1, 0, 0, 0);
+        x.follow(3, 1, 0, 0);
+        Check.due("10: 3 and 0 may, whatever lies between", x.push(2, 3, 3, 1), 2);
+        Lines.looks("10", x, "113(10)0000");
+        x.undo();
+        x.follow(3, 0, 0, 0);
+        Check.due("10: 3 and 0 may not", x.push(2, 3, 3, 1), -13);
     }
 
     /** "behind the STEP": what becomes MIXED in it is MIXED then, and the last one's NEIGHBOUR is another. */
